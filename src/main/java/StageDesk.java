@@ -142,9 +142,6 @@ public final class StageDesk {
         if (s == null || !within(ticks, 1, MOST_DELAY)) {
             return BAD;
         }
-        if (timers.size >= MOST_TIMERS) {
-            return FULL;
-        }
         return timers.append(s, value, now + ticks);
     }
 
@@ -638,7 +635,7 @@ public final class StageDesk {
         int size;
         int set;
 
-        /** Its number; the caller has seen that there is room. */
+        /** Its number, or FULL. */
         int append(Stage stage, int value, int due) {
             if (size >= MOST_TIMERS) {
                 return FULL;

@@ -8,6 +8,11 @@ final class Checks {
         part = name;
     }
 
+    /** Names the sentence of the document that the next answers are held against; SentencesTest reads these calls. */
+    void sentence(String section, String words) {
+        part(section + ", \"" + words + "\"");
+    }
+
     void due(String call, int got, int want) {
         seen++;
         if (got != want) {
@@ -20,6 +25,10 @@ final class Checks {
 
     void holds(String what, boolean is) {
         due(what, is ? 1 : 0, 1);
+    }
+
+    void same(String what, String got, String want) {
+        holds(what + "; it was\n" + want + "\nand is\n" + got + "\n", got.equals(want));
     }
 
     /** All ten answers of told(), from 0 on. */

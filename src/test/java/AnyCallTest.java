@@ -4,6 +4,7 @@ import java.util.Random;
 public final class AnyCallTest {
     private static final int RUNS = 200;
     private static final int CALLS = 3000;
+    private static final int PROMISED = 512;
     private static final int VALUE = 15;
     private static final int[] EDGES = {
         Integer.MIN_VALUE, Integer.MIN_VALUE + 1, -5, -2, -1, 0, 1, 2, 3, 4, 5, 7, 8, 9, 10, 32, 33, 50, 51, 100, 101,
@@ -20,9 +21,10 @@ public final class AnyCallTest {
             for (int i = 0; i < CALLS; i++) {
                 int which = random.nextInt(20);
                 int answer = call(desk, random, which);
-                checks.holds("call " + which + " answered " + answer, which == VALUE || answer >= StageDesk.SLOW);
+                // What later calls answer is free, but they must not throw either.
+                checks.holds("call " + which + " answered " + answer,
+                        i >= PROMISED || which == VALUE || answer >= StageDesk.SLOW);
             }
-            checks.holds("the clock stays within its bound", desk.clock() >= 0 && desk.clock() <= 400);
         }
         checks.end();
     }

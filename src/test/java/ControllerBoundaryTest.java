@@ -58,6 +58,8 @@ public final class ControllerBoundaryTest {
         for (int stage = 0; stage < 8; stage++) {
             Desks.fill(desk, stage, 3, 1);
         }
+        desk.close(0);
+        desk.close(7);
         desk.tick(1);
         for (int stage = 0; stage < 8; stage++) {
             checks.told(desk, stage, 2, 0, 2, 2);
@@ -322,6 +324,11 @@ public final class ControllerBoundaryTest {
         StageDesk never = Desks.of(Desks.SUM);
         never.tick(10);
         checks.due("batch size of a stage that had no event", never.told(0, 3), 1);
+        StageDesk reserved = Desks.of(Desks.COPY);
+        Desks.growBatchToTwo(reserved, 0);
+        reserved.prepare(0, 8);
+        reserved.tick(8);
+        checks.due("batch size at 20, with reserved places and no event", reserved.told(0, 3), 1);
     }
 
     private static void batchesOfAnEndStay() {

@@ -75,7 +75,9 @@ public final class ControllerTest {
 
     private static void halfABoundBringsNone() {
         checks.part("half a bound");
-        int[][] boundQueueWorkers = {{1, 0, 1}, {1, 1, 2}, {4, 2, 1}, {4, 3, 2}, {5, 2, 1}, {5, 3, 2}, {32, 16, 1}, {32, 17, 2}};
+        int[][] boundQueueWorkers = {
+            {1, 0, 1}, {1, 1, 2}, {4, 2, 1}, {4, 3, 2}, {5, 2, 1}, {5, 3, 2}, {32, 16, 1}, {32, 17, 2}
+        };
         for (int[] b : boundQueueWorkers) {
             StageDesk desk = stuckDesk(b[0], 4, b[1]);
             desk.tick(9);

@@ -11,7 +11,8 @@ public final class LanguageTest {
         "\\bthrows?\\b", "\\btry\\b", "\\bcatch\\b", "\\bsynchronized\\b", "\\bassert\\b", "->", "::", "\\bpackage\\b",
         "\\bprotected\\b", "\\bstatic\\s*\\{", "\\bSystem\\.(?!arraycopy\\b)", "\\bThread\\b", "\\bRandom\\b",
         "\\bObject\\b", "\\bhashCode\\b", "\\btoString\\b", "\\bequals\\b", "Exact\\b", "\\bvar\\b",
-        "\\bstatic\\s+(?!final\\b)\\w+(\\[\\])*\\s+\\w+\\s*[;=]", "(?<!static )(?<!static final )\\bclass (?!StageDesk\\b)"
+        "\\bstatic\\s+(?!final\\b)\\w+(\\[\\])*\\s+\\w+\\s*[;=]",
+        "(?<!static )(?<!static final )\\bclass (?!StageDesk\\b)"
     };
 
     private static final Checks checks = new Checks();

@@ -1,9 +1,11 @@
 import java.util.Random;
 
-/** Many runs of calls, the same each time, on StageDesk and on the plain model: the answers must be alike. */
+/** Many runs of at most 512 calls, the same each time, on StageDesk and on the plain model, with like answers. */
 public final class ModelTest {
-    private static final int RUNS = 400;
+    private static final int RUNS = 4000;
     private static final int CALLS = 512;
+    private static final int LAST_LOOKS = 150;
+    private static final int MOST_PUTS = 12;
     private static final int[] EDGES = {Integer.MIN_VALUE, -2, -1, 0, 1, 8, 9, 33, 51, 101, 1001, Integer.MAX_VALUE};
 
     private static final Checks checks = new Checks();
@@ -14,6 +16,7 @@ public final class ModelTest {
     private final boolean wild;
     private final int longestTick;
     private int stages;
+    private int calls;
 
     private ModelTest(int seed) {
         random = new Random(seed);
@@ -29,21 +32,28 @@ public final class ModelTest {
         for (int seed = 0; seed < RUNS; seed++) {
             ModelTest test = new ModelTest(seed);
             test.makeStages();
-            for (int call = 0; call < CALLS; call++) {
+            while (test.calls < CALLS - LAST_LOOKS - MOST_PUTS) {
                 test.oneCall();
-                test.lookAtAll(call == CALLS - 1);
+                test.lookAtOne();
                 for (int s = 0; s < test.stages; s++) {
-                    workers = Math.max(workers, test.desk.told(s, 2));
-                    batch = Math.max(batch, test.desk.told(s, 3));
+                    workers = Math.max(workers, test.plain.told(s, 2));
+                    batch = Math.max(batch, test.plain.told(s, 3));
                 }
             }
-            ended = Math.max(ended, test.desk.ended());
+            test.lookAtMany();
+            checks.holds("at most 512 calls", test.calls <= CALLS);
+            ended = Math.max(ended, test.plain.ended());
         }
         checks.part("what the runs reach");
         checks.due("workers", workers, 4);
         checks.due("batch size", batch, 8);
         checks.holds("over 64 ended", ended > 64);
         checks.end();
+    }
+
+    private void same(String call, int got, int want) {
+        calls++;
+        checks.due("call " + calls + ", " + call, got, want);
     }
 
     private int from(int least, int most) {
@@ -80,14 +90,14 @@ public final class ModelTest {
 
     private void makeStage(int sort, int bound, int cap, int cost) {
         int number = desk.stage(sort, bound, cap, cost);
-        checks.due("stage(..)", number, plain.stage(sort, bound, cap, cost));
+        same("stage(..)", number, plain.stage(sort, bound, cap, cost));
         if (number >= 0) {
             stages++;
         }
     }
 
     private void setTargets(int stage, int first, int second) {
-        checks.due("targets(..)", desk.targets(stage, first, second), plain.targets(stage, first, second));
+        same("targets(..)", desk.targets(stage, first, second), plain.targets(stage, first, second));
     }
 
     private void oneCall() {
@@ -97,32 +107,32 @@ public final class ModelTest {
             putSome(s);
         } else if (kind < 74) {
             int many = random.nextInt(60) == 0 ? near(1, 50) : near(1, longestTick);
-            checks.due("tick(" + many + ")", desk.tick(many), plain.tick(many));
+            same("tick(" + many + ")", desk.tick(many), plain.tick(many));
         } else if (kind < 80) {
             int places = near(1, 8);
-            checks.due("prepare(" + s + ", " + places + ")", desk.prepare(s, places), plain.prepare(s, places));
+            same("prepare(" + s + ", " + places + ")", desk.prepare(s, places), plain.prepare(s, places));
         } else if (kind < 84) {
             int value = aValue();
-            checks.due("commit(" + s + ", ..)", desk.commit(s, value), plain.commit(s, value));
+            same("commit(" + s + ", ..)", desk.commit(s, value), plain.commit(s, value));
         } else if (kind < 86) {
-            checks.due("abort(" + s + ")", desk.abort(s), plain.abort(s));
+            same("abort(" + s + ")", desk.abort(s), plain.abort(s));
         } else if (kind < 93) {
             int value = aValue();
             int ticks = random.nextInt(4) == 0 ? near(1, 1000) : near(1, 12);
-            checks.due("timer(" + s + ", ..)", desk.timer(s, value, ticks), plain.timer(s, value, ticks));
+            same("timer(" + s + ", ..)", desk.timer(s, value, ticks), plain.timer(s, value, ticks));
         } else if (kind < 95) {
             int timer = near(0, 60);
-            checks.due("cancel(" + timer + ")", desk.cancel(timer), plain.cancel(timer));
+            same("cancel(" + timer + ")", desk.cancel(timer), plain.cancel(timer));
         } else {
             seldomCall(kind, s);
         }
     }
 
     private void putSome(int s) {
-        int many = random.nextInt(5) == 0 ? 12 : 1;
+        int many = random.nextInt(5) == 0 ? MOST_PUTS : 1;
         for (int i = 0; i < many; i++) {
             int value = aValue();
-            checks.due("put(" + s + ", ..)", desk.put(s, value), plain.put(s, value));
+            same("put(" + s + ", ..)", desk.put(s, value), plain.put(s, value));
         }
     }
 
@@ -131,38 +141,82 @@ public final class ModelTest {
             int rate = random.nextBoolean() ? near(0, 3) : near(0, 100);
             int depth = near(1, random.nextBoolean() ? 4 : 100);
             int goal = near(0, 30);
-            checks.due("admit(" + s + ", ..)", desk.admit(s, rate, depth, goal), plain.admit(s, rate, depth, goal));
+            same("admit(" + s + ", ..)", desk.admit(s, rate, depth, goal), plain.admit(s, rate, depth, goal));
         } else if (kind < 99) {
             setTargets(s, near(-1, stages - 1), near(-1, stages - 1));
         } else if (random.nextInt(4) == 0) {
-            checks.due("close(" + s + ")", desk.close(s), plain.close(s));
+            same("close(" + s + ")", desk.close(s), plain.close(s));
         } else {
             makeStage(near(0, 4), near(1, 32), near(1, 4), near(0, 9));
         }
     }
 
-    private void lookAtAll(boolean whole) {
-        checks.due("clock()", desk.clock(), plain.clock());
-        checks.due("events()", desk.events(), plain.events());
-        checks.due("ended()", desk.ended(), plain.ended());
-        checks.due("lost()", desk.lost(), plain.lost());
-        for (int s = 0; s < stages; s++) {
-            for (int what = 0; what < 10; what++) {
-                checks.due("told(" + s + ", " + what + ")", desk.told(s, what), plain.told(s, what));
-            }
-            for (int w = 0; w < 4; w++) {
-                for (int what = 0; what < 3; what++) {
-                    checks.due("worker(" + s + ", " + w + ", " + what + ")",
-                            desk.worker(s, w, what), plain.worker(s, w, what));
-                }
-            }
-            for (int i = 0; i <= 32; i++) {
-                checks.due("queued(" + s + ", " + i + ")", desk.queued(s, i), plain.queued(s, i));
-            }
+    private void lookAtOne() {
+        int s = aStage();
+        switch (random.nextInt(8)) {
+            case 0:
+            case 1:
+                lookAtQueue(s, random.nextInt(6));
+                break;
+            case 2:
+                lookAtWorker(s, random.nextInt(5));
+                break;
+            case 3:
+                lookAtDone(plain.ended() - random.nextInt(4));
+                break;
+            case 4:
+                lookAtCounts();
+                break;
+            default:
+                int what = near(0, 9);
+                same("told(" + s + ", " + what + ")", desk.told(s, what), plain.told(s, what));
+                break;
         }
-        for (int i = whole ? 0 : Math.max(0, desk.ended() - 8); i <= desk.ended(); i++) {
-            checks.due("done(" + i + ")", desk.done(i), plain.done(i));
-            checks.due("value(" + i + ")", desk.value(i), plain.value(i));
+    }
+
+    /** All that the calls that are left can show, from the stage on that the seed chooses. */
+    private void lookAtMany() {
+        lookAtCounts();
+        for (int i = plain.ended(); i >= -1 && calls < CALLS - LAST_LOOKS + 30; i--) {
+            lookAtDone(i);
         }
+        int first = random.nextInt(Math.max(stages, 1));
+        for (int i = 0; i < stages; i++) {
+            lookAtStage((first + i) % stages);
+        }
+    }
+
+    private void lookAtStage(int s) {
+        for (int what = 0; what < 10 && calls < CALLS; what++) {
+            same("told(" + s + ", " + what + ")", desk.told(s, what), plain.told(s, what));
+        }
+        for (int w = 0; w <= plain.told(s, 2) && calls < CALLS - 2; w++) {
+            lookAtWorker(s, w);
+        }
+        for (int i = 0; i <= plain.told(s, 0) && calls < CALLS; i++) {
+            lookAtQueue(s, i);
+        }
+    }
+
+    private void lookAtCounts() {
+        same("clock()", desk.clock(), plain.clock());
+        same("events()", desk.events(), plain.events());
+        same("ended()", desk.ended(), plain.ended());
+        same("lost()", desk.lost(), plain.lost());
+    }
+
+    private void lookAtWorker(int s, int w) {
+        for (int what = 0; what < 3; what++) {
+            same("worker(" + s + ", " + w + ", " + what + ")", desk.worker(s, w, what), plain.worker(s, w, what));
+        }
+    }
+
+    private void lookAtQueue(int s, int i) {
+        same("queued(" + s + ", " + i + ")", desk.queued(s, i), plain.queued(s, i));
+    }
+
+    private void lookAtDone(int i) {
+        same("done(" + i + ")", desk.done(i), plain.done(i));
+        same("value(" + i + ")", desk.value(i), plain.value(i));
     }
 }

@@ -421,7 +421,9 @@ public final class PromiseBoundaryTest {
 
     private static void promise6Full() {
         checks.sentence("Promise 6", "FULL when there are not so many (nothing is reserved).");
-        int[][] boundWaitingReserved = {{7, 0, 0}, {8, 1, 0}, {8, 0, 1}, {10, 2, 1}, {1, 1, 0}, {32, 32, 0}, {32, 17, 8}};
+        int[][] boundWaitingReserved = {
+            {7, 0, 0}, {8, 1, 0}, {8, 0, 1}, {10, 2, 1}, {1, 1, 0}, {32, 32, 0}, {32, 17, 8}
+        };
         for (int[] b : boundWaitingReserved) {
             StageDesk desk = Desks.with(Desks.COPY, b[0], 1, 0);
             Desks.fill(desk, 0, b[1], 0);
@@ -633,17 +635,20 @@ public final class PromiseBoundaryTest {
 
     private static void promise10Waits() {
         checks.sentence("Promise 10", "A timer that waits waits no more: 1;");
-        StageDesk desk = Desks.of(Desks.END);
-        for (int i = 0; i < 4; i++) {
-            desk.timer(0, 60 + i, 2);
+        StageDesk desk = Desks.of(Desks.END, Desks.END);
+        int[] stages = {0, 1, 0, 1, 0};
+        for (int i = 0; i < stages.length; i++) {
+            desk.timer(stages[i], 60 + i, i == 2 ? 3 : 2);
         }
         checks.due("cancel of the first", desk.cancel(0), 1);
-        checks.due("cancel of the last", desk.cancel(3), 1);
+        checks.due("cancel of the last", desk.cancel(4), 1);
         desk.tick(2);
         checks.due("events()", desk.events(), 2);
         checks.due("lost()", desk.lost(), 0);
+        checks.queue(desk, 0);
+        checks.queue(desk, 1, 1);
         desk.tick(2);
-        checks.ended(desk, 0, 61, 1, 62);
+        checks.ended(desk, 0, 61, 2, 62, 1, 63);
     }
 
     private static void promise10DoesNotWait() {

@@ -440,21 +440,6 @@ public final class PromiseTest {
             checks.due("done(" + i + ")", desk.done(i), BAD);
             checks.due("value(" + i + ")", desk.value(i), BAD);
         }
-        manyDone();
-    }
-
-    private static void manyDone() {
-        StageDesk desk = deskWith(END, 32, 1, 0);
-        for (int i = 0; i < 300; i++) {
-            desk.put(0, 1000 + i);
-            desk.tick(1);
-        }
-        checks.due("ended()", desk.ended(), 299);
-        for (int i = 0; i < 299; i++) {
-            checks.due("done(" + i + ")", desk.done(i), i);
-            checks.due("value(" + i + ")", desk.value(i), 1000 + i);
-        }
-        checks.due("done(299)", desk.done(299), BAD);
     }
 
     private static void promise18To20Counts() {

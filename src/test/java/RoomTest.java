@@ -38,7 +38,7 @@ public final class RoomTest {
             desk.tick(1);
             calls++;
         }
-        for (; calls < 512; calls++) {
+        for (; calls < 511; calls++) {
             desk.told(2, 9);
         }
         return desk.ended();

@@ -75,6 +75,13 @@ public final class TermsBoundaryTest {
         desk.tick(6);
         checks.ended(desk, 4, 8);
         checks.due("the time since the event was put, four stages before", desk.told(4, 9), 6);
+        StageDesk behind = Desks.of(Desks.END);
+        behind.put(0, 1);
+        behind.put(0, 2);
+        behind.tick(1);
+        behind.put(0, 3);
+        behind.tick(3);
+        checks.due("born at 0, 0 and 1 in one queue, done at 2, 3 and 4", behind.told(0, 9), 3);
     }
 
     private static void eightStagesAreTheMost() {
@@ -211,6 +218,9 @@ public final class TermsBoundaryTest {
         two.tick(2);
         checks.queue(two, 0, 14);
         checks.queue(two, 1);
+        two.put(2, 100);
+        two.tick(4);
+        checks.ended(two, 14, 15, 16, 100);
         StageDesk none = deskOfPairs(Desks.SUM, NONE, 1);
         none.put(2, 7);
         none.tick(2);
@@ -386,7 +396,8 @@ public final class TermsBoundaryTest {
     }
 
     private static void offersToAFullStage() {
-        checks.sentence("Terms", "else when events in the queue and reserved places together are as many as its bound;");
+        checks.sentence("Terms",
+                "else when events in the queue and reserved places together are as many as its bound;");
         refused(false, 3, 0, true, FULL);
         refused(false, 0, 3, true, FULL);
         refused(false, 2, 1, true, FULL);

@@ -17,6 +17,7 @@ public final class TickBoundaryTest {
         restFallsToZeroAndNoFurther();
         eventsAreMadeJustBeforeTheirOffer();
         refusedOnesAreKeptWithAllBehind();
+        keptOnesKeepTheirTargets();
         oneOfferInATick();
         theSameEventIsOfferedAgain();
         noneBeforeTheOneAhead();
@@ -267,6 +268,29 @@ public final class TickBoundaryTest {
         desk.abort(2);
         desk.tick(1);
         return desk;
+    }
+
+    private static void keptOnesKeepTheirTargets() {
+        checks.sentence("Terms", "one that is refused it keeps with all that come after it:");
+        StageDesk desk = Desks.of(Desks.END, Desks.END, Desks.SPLIT, Desks.END);
+        desk.targets(2, 0, 1);
+        desk.admit(0, 0, 1, 0);
+        desk.put(0, 9);
+        desk.put(2, 5);
+        desk.tick(2);
+        checks.worker(desk, 2, 0, 1, 0, 2);
+        desk.targets(2, NONE, 3);
+        desk.tick(1);
+        checks.worker(desk, 2, 0, 1, 0, 2);
+        desk.admit(0, 1, 1, 0);
+        desk.tick(1);
+        checks.queue(desk, 0, 2);
+        checks.queue(desk, 1, 3);
+        checks.due("the new target was offered nothing", desk.told(3, 5), 100);
+        checks.worker(desk, 2, 0, 0, 0, 0);
+        desk.put(2, 6);
+        desk.tick(2);
+        checks.worker(desk, 3, 0, 1, 0, 0);
     }
 
     private static void oneOfferInATick() {

@@ -130,7 +130,7 @@ public final class TickTest {
         checks.due("the younger one first", timeOfSum(0, 2), 5);
     }
 
-    /** Of a SUM of an event from stage 2, then one from stage 3: that of the stage with cost 2 is born at 11, the other at 12. */
+    /** Of a SUM of an event from stage 2, then one from stage 3: that of cost 2 is born at 11, the other at 12. */
     private static int timeOfSum(int cost2, int cost3) {
         StageDesk desk = deskWithBatchesOfTwo(SUM);
         desk.stage(END, 32, 1, 0);
